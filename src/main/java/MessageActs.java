@@ -117,11 +117,11 @@ public final class MessageActs {
         if (time < now || time > LAST_TIME) {
             throw new IllegalArgumentException("no time, or one that is over");
         }
-        int before = deads.length();
+        int before = deads.length;
         now = time;
         tryFailedAgain();
         endLongWaits();
-        return deads.length() - before;
+        return deads.length - before;
     }
 
     public int skip(int sender) throws IllegalArgumentException {
@@ -205,17 +205,17 @@ public final class MessageActs {
     public int count(int what) {
         switch (what) {
             case 0:
-                return acts.length();
+                return acts.length;
             case 1:
-                return deads.length();
+                return deads.length;
             case 2:
                 return now;
             case 3:
                 return doubles;
             case 4:
-                return waiting.length();
+                return waiting.length;
             case 5:
-                return failed.length();
+                return failed.length;
             default:
                 return NONE;
         }
@@ -332,7 +332,7 @@ public final class MessageActs {
     private int verdictIfOpenIsAsked(int state) {
         switch (state) {
             case UNKNOWN:
-                return waiting.length() < MOST_WAITING ? MUST_WAIT : RULE_TOO_MANY_WAIT;
+                return waiting.length < MOST_WAITING ? MUST_WAIT : RULE_TOO_MANY_WAIT;
             case FIXED:
                 return RULE_FIXED;
             case CANCELLED:
@@ -343,12 +343,9 @@ public final class MessageActs {
     }
 
     private void fail(Message message, boolean again) {
-        if (again) {
-            die(message);
-        } else {
-            message.status = TRIED_AGAIN;
-            failed.append(message);
-        }
+        Line line = again ? deads : failed;
+        message.status = again ? DEAD : TRIED_AGAIN;
+        line.append(message);
     }
 
     private void perform(Message message) {
@@ -376,14 +373,9 @@ public final class MessageActs {
         acts.append(message);
     }
 
-    private void die(Message message) {
-        message.status = DEAD;
-        deads.append(message);
-    }
-
     /** Only those that failed before this time: what fails meanwhile is for the next one. */
     private void tryFailedAgain() {
-        int due = failed.length();
+        int due = failed.length;
         for (int i = 0; i < due; i++) {
             Message message = failed.take(0);
             if (message != null) {
@@ -394,13 +386,14 @@ public final class MessageActs {
 
     /** Time never runs back, so those that wait longest stand first. */
     private void endLongWaits() {
-        for (int left = waiting.length(); left > 0; left--) {
+        for (int left = waiting.length; left > 0; left--) {
             Message message = waiting.get(0);
             if (message == null || now - message.waitsSince <= LONGEST_WAIT) {
                 return;
             }
             waiting.take(0);
-            die(message);
+            message.status = DEAD;
+            deads.append(message);
         }
     }
 
@@ -535,11 +528,7 @@ public final class MessageActs {
     /** Messages in the order in which they were appended, with room for every message that there can be. */
     private static final class Line {
         private final Message[] places = new Message[ALL_MESSAGES];
-        private int length = 0;
-
-        int length() {
-            return length;
-        }
+        int length = 0;
 
         void append(Message message) {
             if (length >= 0 && length < places.length) {

@@ -283,6 +283,18 @@ public final class MessageActsPromises {
         due("room again", x.receive(1, 4, REPLACE, 9, 1), 4);
     }
 
+    private static void twelveWaitForOne() {
+        MessageActs x = new MessageActs();
+        for (int number = 1; number <= 12; number++) {
+            x.receive(0, number, CHANGE, 8, number);
+        }
+        due("all wait for 8", x.look(8, 3), 12);
+        due("opens", x.receive(1, 1, NEW, 8, 100), 1);
+        due("none waits", x.count(4), 0);
+        dueSubject("all had their turns", x, 8, OPEN, 178);
+        dueActs("all had their turns", x, 1001, 1, 2, 3, 4, 5, 6, 7, 8, 9, 10, 11, 12);
+    }
+
     private static void receiveThrows() {
         MessageActs x = new MessageActs();
         for (int sender : WRONG_SENDERS) {
@@ -603,10 +615,14 @@ public final class MessageActsPromises {
 
     private static void skipAllNumbers() {
         MessageActs x = new MessageActs();
-        for (int number = 1; number <= 24; number++) {
+        for (int number = 1; number <= 23; number++) {
             x.receive(0, number, ASK, 0, 0);
         }
         x.tick(1000);
+        due("the last is a gap", x.of(0, 0), 24);
+        due("none is greater than the last", x.skip(0), NONE);
+        x.receive(0, 24, ASK, 0, 0);
+        x.tick(2000);
         due("no gap", x.skip(0), NONE);
         due("no gap", x.of(0, 0), 25);
     }
@@ -844,6 +860,7 @@ public final class MessageActsPromises {
         waitersComeBeforeHeld();
         waitersInOrder();
         twelveWait();
+        twelveWaitForOne();
         receiveThrows();
         statusOfEach();
         answerOfEach();
