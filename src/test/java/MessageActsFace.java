@@ -85,6 +85,7 @@ public final class MessageActsFace {
         due("constructor's parameters", constructors[0].getParameterCount(), 0);
     }
 
+    /** Behind the 512th call the answers are free, but no call may ever throw by itself. */
     private static void wildCalls() {
         Random random = new Random(1);
         for (int run = 0; run < 300; run++) {

@@ -7,7 +7,9 @@ import java.util.TreeMap;
 /** Runs of calls with fixed seeds, compared with a model that works from lists and searches them anew. */
 public final class MessageActsModelRuns {
     private static final int RUNS = 1500;
-    private static final int CALLS = 300;
+    /** An object is promised for 512 calls: so many change it, and what is left of them looks at it. */
+    private static final int CALLS = 250;
+    private static final int BETWEEN_LOOKS = 25;
     private static final long THROWS_ARGUMENT = Long.MIN_VALUE;
     private static final long THROWS_INDEX = Long.MIN_VALUE + 1;
 
@@ -420,7 +422,14 @@ public final class MessageActsModelRuns {
             case 3: return new int[] {d.near(0, d.subjects)};
             case 4: return new int[] {d.near(0, 5), d.random.nextInt(4) == 0 ? 0 : 1};
             case 5: return new int[] {d.near(now, now + d.stride)};
+            case 1:
+            case 2:
             case 8: return new int[] {d.near(0, d.senders), d.number()};
+            case 9: return new int[] {d.near(0, d.subjects), d.near(0, 4)};
+            case 10:
+            case 11: return new int[] {d.near(0, 97)};
+            case 12: return new int[] {d.near(0, d.senders), d.near(0, 4)};
+            case 13: return new int[] {d.near(0, 6)};
             default: return new int[] {d.near(0, d.senders)};
         }
     }
@@ -428,45 +437,65 @@ public final class MessageActsModelRuns {
     private static final String[] NAMES = {"receive", "status", "answer", "point", "fails", "tick", "skip", "cut",
         "replay", "look", "act", "dead", "of", "count"};
     private static final int[] CHANGING = {0, 0, 0, 0, 0, 0, 0, 0, 0, 0, 0, 0, 3, 4, 4, 5, 5, 5, 6, 6, 7, 8};
+    private static final int[] LOOKING = {1, 2, 9, 10, 11, 12, 13, 13, 13};
 
     private static void both(int run, int n, MessageActs x, Model m, int kind, int... a) {
         due(run, n, NAMES[kind], a, call(x, kind, a), call(m, kind, a));
     }
 
-    private static void compareAll(int run, int n, MessageActs x, Model m) {
-        for (int sender = -1; sender < 5; sender++) {
-            for (int number = 0; number < 26; number++) {
+    private static void compareSenders(int run, int n, MessageActs x, Model m) {
+        for (int sender = 0; sender < 4; sender++) {
+            for (int number = 1; number < 25; number++) {
                 both(run, n, x, m, 1, sender, number);
                 both(run, n, x, m, 2, sender, number);
             }
-            for (int what = -1; what < 5; what++) {
+            for (int what = 0; what < 4; what++) {
                 both(run, n, x, m, 12, sender, what);
             }
         }
-        for (int subject = -1; subject < 17; subject++) {
-            for (int what = -1; what < 5; what++) {
+    }
+
+    private static void compareSubjectsAndOrder(int run, int n, MessageActs x, Model m) {
+        for (int subject = 0; subject < 16; subject++) {
+            for (int what = 0; what < 4; what++) {
                 both(run, n, x, m, 9, subject, what);
             }
         }
-        for (int i = -1; i < 98; i++) {
+        for (int i = 0; i < 97; i++) {
             both(run, n, x, m, 10, i);
             both(run, n, x, m, 11, i);
         }
+    }
+
+    /** Another object that met the same calls, so that looking at it does not use up the calls of the first. */
+    private static MessageActs again(List<Integer> kinds, List<int[]> arguments) {
+        MessageActs x = new MessageActs();
+        for (int i = 0; i < kinds.size(); i++) {
+            call(x, kinds.get(i), arguments.get(i));
+        }
+        return x;
     }
 
     private static void run(int run) {
         MessageActs x = new MessageActs();
         Model m = new Model();
         Draw d = new Draw(run);
+        List<Integer> kinds = new ArrayList<>();
+        List<int[]> told = new ArrayList<>();
         for (int n = 0; n < CALLS; n++) {
             int kind = CHANGING[d.random.nextInt(CHANGING.length)];
-            both(run, n, x, m, kind, arguments(d, kind, m.time));
-            for (int what = -1; what < 7; what++) {
-                both(run, n, x, m, 13, what);
+            kinds.add(kind);
+            told.add(arguments(d, kind, m.time));
+            both(run, n, x, m, kind, told.get(n));
+            int look = LOOKING[d.random.nextInt(LOOKING.length)];
+            both(run, n, x, m, look, arguments(d, look, m.time));
+            if ((n + 1) % BETWEEN_LOOKS == 0) {
+                compareSenders(run, n, again(kinds, told), m);
+                compareSubjectsAndOrder(run, n, again(kinds, told), m);
             }
-            if (n % 10 == 9) {
-                compareAll(run, n, x, m);
-            }
+        }
+        for (int what = 0; what < 6; what++) {
+            both(run, CALLS, x, m, 13, what);
         }
     }
 

@@ -1,90 +1,5 @@
-import java.util.function.IntSupplier;
-
 /** For each promise: ordinary inputs, the edges that the document names, and wrong inputs. */
-public final class MessageActsPromises {
-    private static final int NEW = 0;
-    private static final int REPLACE = 1;
-    private static final int CHANGE = 2;
-    private static final int ASK = 3;
-    private static final int CANCEL = 4;
-
-    private static final int UNKNOWN = 0;
-    private static final int OPEN = 1;
-    private static final int FIXED = 2;
-    private static final int CANCELLED = 3;
-
-    private static final int HELD = 0;
-    private static final int ACTED = 1;
-    private static final int REFUSED = 2;
-    private static final int WAITS = 3;
-    private static final int TRIED_AGAIN = 4;
-    private static final int DEAD = 5;
-    private static final int LOST = 6;
-
-    private static final int NONE = MessageActs.NONE;
-    private static final int[] WRONG_SENDERS = {-1, 4, Integer.MIN_VALUE, Integer.MAX_VALUE};
-    private static final int[] WRONG_NUMBERS = {0, 25, -1, Integer.MIN_VALUE, Integer.MAX_VALUE};
-
-    private static int checks = 0;
-    private static int wrong = 0;
-
-    private static void due(String call, int got, int want) {
-        checks++;
-        if (got != want) {
-            wrong++;
-            System.out.println(call + " answered " + got + ", due is " + want);
-        }
-    }
-
-    private static void due(String call, boolean got, boolean want) {
-        due(call, got ? 1 : 0, want ? 1 : 0);
-    }
-
-    private static void dueThrow(String call, Class<? extends RuntimeException> want, IntSupplier asked) {
-        checks++;
-        String got;
-        try {
-            got = "answered " + asked.getAsInt();
-        } catch (RuntimeException e) {
-            if (e.getClass() == want) {
-                return;
-            }
-            got = "threw " + e.getClass().getSimpleName();
-        }
-        wrong++;
-        System.out.println(call + " " + got + ", due is " + want.getSimpleName());
-    }
-
-    private static void dueIllegal(String call, IntSupplier asked) {
-        dueThrow(call, IllegalArgumentException.class, asked);
-    }
-
-    private static void dueIndex(String call, IntSupplier asked) {
-        dueThrow(call, IndexOutOfBoundsException.class, asked);
-    }
-
-    /** State and value of a subject at once. */
-    private static void dueSubject(String when, MessageActs x, int subject, int state, int value) {
-        due(when + ": state of " + subject, x.look(subject, 0), state);
-        due(when + ": value of " + subject, x.look(subject, 1), value);
-    }
-
-    private static void dueActs(String when, MessageActs x, int... names) {
-        for (int i = 0; i < names.length; i++) {
-            due(when + ": act(" + i + ")", x.act(i), names[i]);
-        }
-        due(when + ": act behind the last", x.act(names.length), NONE);
-        due(when + ": count(0)", x.count(0), names.length);
-    }
-
-    private static void dueDeads(String when, MessageActs x, int... names) {
-        for (int i = 0; i < names.length; i++) {
-            due(when + ": dead(" + i + ")", x.dead(i), names[i]);
-        }
-        due(when + ": dead behind the last", x.dead(names.length), NONE);
-        due(when + ": count(1)", x.count(1), names.length);
-    }
-
+public final class MessageActsPromises extends Checks {
     // Promise 1
 
     private static void newObject() {
@@ -886,9 +801,6 @@ public final class MessageActsPromises {
         everyMessageDies();
         ofSenders();
         counts();
-        System.out.println(checks + " checks, " + wrong + " wrong");
-        if (wrong != 0) {
-            System.exit(1);
-        }
+        end();
     }
 }
